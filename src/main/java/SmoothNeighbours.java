@@ -7,9 +7,12 @@ public final class SmoothNeighbours {
     private static final int NO_MEASURE = -100;
     private static final int NO_LEAVES = -1000000;
     private static final int NO_WITNESS = -2;
+    private static final int FIRST_PRIMES = 3;
     private static final int MOST_PRIMES = 5;
     private static final int SETS = 128;
     private static final int MEASURES = 9;
+    /** The greatest BOUND there is, that of 17. */
+    private static final int LAST_INDEX = 9;
     private static final int SIEVE_END = 200000;
     private static final int SUMS_END = 3000;
     private static final int LAST_MODULUS = 10000;
@@ -18,69 +21,79 @@ public final class SmoothNeighbours {
     private static final int LAST_GREAT = 400;
     private static final int NUMBER_DIGITS = 300;
     private static final int NUMBER_LIMBS = 36;
+    private static final int FED_BYTES = 20;
+    private static final int TAPE_BYTES = 2000;
+    /** The longest proof of all is some 1,600 bytes long. */
+    private static final int PROOF_BYTES = 2048;
 
-    private final Search here = new Search(1);
-    private final Search elsewhere = new Search(1);
+    private final Search neighbours = new Search(1);
     private final Search twoApart = new Search(2);
-    private final Smooths sieve = new Smooths();
+    private final Smooths smooths = new Smooths();
     private final Greats greats = new Greats();
-    private final Tape tape = new Tape();
-    private final Proof written = new Proof();
-    private final Proof due = new Proof();
-    private final Fraction fraction = new Fraction();
     private final Ranking ranking = new Ranking();
+    private final Fraction fraction = new Fraction();
+    private final Text tape = new Text(TAPE_BYTES);
+    private final Text writtenProof = new Text(PROOF_BYTES);
+    private final Text dueProof = new Text(PROOF_BYTES);
     private final Big told = new Big(NUMBER_LIMBS);
     private final Big spare = new Big(NUMBER_LIMBS);
-    /** One more than how many PAIRS a set has; 0 where that is not known yet. */
-    private final int[] knownPairs = new int[SETS];
-    private int bits;
+    private int primes = FIRST_PRIMES;
 
     public SmoothNeighbours() {
         told.setTo(1);
-        renew(3);
+        neighbours.fill(FIRST_PRIMES);
     }
 
     // ---------------------------------------------------------------- the primes
 
     public int add(int prime) {
-        return canCome(prime) ? renew(bits | Primes.bitOf(prime)) : NONE;
+        if (!canCome(prime)) {
+            return NONE;
+        }
+        primes |= Primes.bitOf(prime);
+        return neighbours.fill(primes).found;
     }
 
     public int drop(int prime) {
-        return Primes.has(bits, prime) ? renew(bits & ~Primes.bitOf(prime)) : NONE;
+        if (!Primes.has(primes, prime)) {
+            return NONE;
+        }
+        primes &= ~Primes.bitOf(prime);
+        return neighbours.fill(primes).found;
     }
 
     public int choose(int bits) {
         if (bits < 0 || bits >= SETS || Integer.bitCount(bits) > MOST_PRIMES) {
             return NONE;
         }
-        return renew(bits);
+        primes = bits;
+        return neighbours.fill(primes).found;
     }
 
     public int is(int what) {
         switch (what) {
             case 0:
-                return bits;
+                return primes;
             case 1:
-                return Integer.bitCount(bits);
+                return Integer.bitCount(primes);
             case 2:
-                return here.classes;
+                return neighbours.classes;
             case 3:
-                return here.bound;
+                return neighbours.bound;
             case 4:
-                return here.found;
+                return neighbours.found;
             case 5:
-                return here.runsOfThree();
+                return neighbours.runsOfThree();
             case 6:
-                return Primes.greatest(bits);
+                return Primes.greatest(primes);
             case 7:
-                return here.found == 0 ? 0 : here.coupleAt(here.found - 1).low.digits();
+                return neighbours.found == 0 ? 0 : neighbours.coupleAt(neighbours.found - 1).low.digits();
             case 8:
-                return here.negatives();
+                return neighbours.negatives();
             case 9:
-                return here.classesWithCouples();
+                return neighbours.classesWithCouples();
             case 10:
-                return here.allRounds();
+                return neighbours.allRounds();
             default:
                 return NONE;
         }
@@ -89,10 +102,10 @@ public final class SmoothNeighbours {
     // ---------------------------------------------------------------- the classes
 
     public int of(int theClass, int what) {
-        if (!here.isClass(theClass)) {
+        if (!neighbours.isClass(theClass)) {
             return NONE;
         }
-        Unit unit = here.unitAt(theClass);
+        Unit unit = neighbours.unitAt(theClass);
         switch (what) {
             case 0:
                 return unit.q;
@@ -105,76 +118,75 @@ public final class SmoothNeighbours {
             case 4:
                 return unit.isNegative() ? 1 : 0;
             case 5:
-                return Integer.bitCount(unit.indexes);
+                return Integer.bitCount(neighbours.indexesOf(theClass));
             case 6:
                 return unit.x.digits();
             case 7:
                 return unit.y.digits();
             case 8:
-                return unit.indexes;
+                return neighbours.indexesOf(theClass);
             default:
                 return NONE;
         }
     }
 
     public int step(int theClass, int k) {
-        return isStep(theClass, k) ? fraction.wholeBehind(here.unitAt(theClass).square, k) : NONE;
+        return isStep(theClass, k) ? fraction.wholeBehind(squareOf(theClass), k) : NONE;
     }
 
     public int unit(int theClass, int what, int k) {
-        if (!here.isClass(theClass) || what < 0 || what > 1) {
+        if (!neighbours.isClass(theClass) || !isOneOfTwo(what)) {
             return NONE;
         }
-        Unit unit = here.unitAt(theClass);
+        Unit unit = neighbours.unitAt(theClass);
         return (what == 0 ? unit.x : unit.y).digitAt(k);
     }
 
     public int power(int theClass, int i, int m) {
-        if (!here.isClass(theClass) || i < 0 || i > LAST_POWER || !isModulus(m)) {
+        if (!neighbours.isClass(theClass) || i < 0 || i > LAST_POWER || !isModulus(m)) {
             return NONE;
         }
-        return here.unitAt(theClass).powerLeft(i, m);
+        return neighbours.unitAt(theClass).powerLeft(i, m);
     }
 
     public int powerLong(int theClass, int i) {
-        if (!here.isClass(theClass) || i < 0 || i > here.bound) {
+        if (!neighbours.isClass(theClass) || i < 0 || i > neighbours.bound) {
             return NONE;
         }
-        return here.unitAt(theClass).powerDigits(i);
+        return neighbours.unitAt(theClass).powerDigits(i);
     }
 
     public int half(int theClass, int what, int k) {
-        if (!here.isClass(theClass) || !here.unitAt(theClass).isNegative() || what < 0 || what > 1) {
+        if (!neighbours.isClass(theClass) || !neighbours.unitAt(theClass).isNegative() || !isOneOfTwo(what)) {
             return NONE;
         }
-        fraction.walkRound(here.unitAt(theClass).square);
+        fraction.walkRound(squareOf(theClass));
         return (what == 0 ? fraction.p : fraction.r).digitAt(k);
     }
 
     public int leaves(int theClass, int k) {
-        return isStep(theClass, k) ? fraction.leavesBehind(here.unitAt(theClass).square, k) : NO_LEAVES;
+        return isStep(theClass, k) ? fraction.leftBehind(squareOf(theClass), k) : NO_LEAVES;
     }
 
     public int nearing(int theClass, int k, int what, int m) {
-        if (!isStep(theClass, k) || what < 0 || what > 1 || !isModulus(m)) {
+        if (!isStep(theClass, k) || !isOneOfTwo(what) || !isModulus(m)) {
             return NONE;
         }
-        return fraction.nearingLeft(here.unitAt(theClass).square, k, what, m);
+        return fraction.nearingModulo(squareOf(theClass), k, what == 0, m);
     }
 
     public int middle(int theClass) {
-        if (!here.isClass(theClass) || here.unitAt(theClass).isNegative()) {
+        if (!neighbours.isClass(theClass) || neighbours.unitAt(theClass).isNegative()) {
             return NONE;
         }
-        Unit unit = here.unitAt(theClass);
-        return fraction.divisorBehind(unit.square, unit.round / 2);
+        return fraction.divisorBehind(squareOf(theClass), neighbours.unitAt(theClass).round / 2);
     }
 
     public int least(int theClass, int n) {
-        if (!here.isClass(theClass) || n < -1000 || n > 1000) {
+        if (!neighbours.isClass(theClass) || n < -1000 || n > 1000) {
             return NONE;
         }
-        long square = here.unitAt(theClass).square;
+        long square = squareOf(theClass);
         for (int y = 1; y <= 3000; y++) {
             if (Primes.isSquare(square * y * y + n)) {
                 return y;
@@ -184,48 +196,49 @@ public final class SmoothNeighbours {
     }
 
     public int witness(int theClass, int i) {
-        return here.isClass(theClass) && i >= 1 && i <= here.bound ? here.witnessOf(theClass, i) : NONE;
+        boolean is = neighbours.isClass(theClass) && i >= 1 && i <= neighbours.bound;
+        return is ? neighbours.unitAt(theClass).witnessFor(i, primes) : NONE;
     }
 
     public int entry(int theClass, int prime) {
-        if (!here.isClass(theClass) || prime < 2 || prime > 97 || !Primes.isPrime(prime)) {
-            return NONE;
-        }
-        return here.unitAt(theClass).firstEntry(prime);
+        boolean is = neighbours.isClass(theClass) && prime <= 97 && Primes.isPrime(prime);
+        return is ? neighbours.unitAt(theClass).firstEntry(prime) : NONE;
     }
 
     // ---------------------------------------------------------------- the pairs
 
     public int digit(int pair, int k) {
-        return here.isCouple(pair) ? here.coupleAt(pair).low.digitAt(k) : NONE;
+        return neighbours.isCouple(pair) ? neighbours.coupleAt(pair).low.digitAt(k) : NONE;
     }
 
     public int left(int pair, int m) {
-        return here.isCouple(pair) && isModulus(m) ? here.coupleAt(pair).low.remainder(m) : NONE;
+        boolean is = neighbours.isCouple(pair) && isModulus(m);
+        return is ? neighbours.coupleAt(pair).low.remainder(m) : NONE;
     }
 
     public int small(int pair) {
-        return here.isCouple(pair) ? here.coupleAt(pair).low.asInt() : NONE;
+        return neighbours.smallAt(pair);
     }
 
     public int measure(int pair, int measure) {
-        return here.isCouple(pair) && isMeasure(measure) ? here.measureOf(pair, measure) : NO_MEASURE;
+        boolean is = neighbours.isCouple(pair) && isMeasure(measure);
+        return is ? neighbours.measureOf(pair, measure) : NO_MEASURE;
     }
 
     public int inPair(int pair, int prime, int what) {
-        if (!here.isCouple(pair) || !Primes.has(bits, prime) || what < 0 || what > 1) {
+        if (!neighbours.isCouple(pair) || !Primes.has(primes, prime) || !isOneOfTwo(what)) {
             return NONE;
         }
-        Couple couple = here.coupleAt(pair);
+        Couple couple = neighbours.coupleAt(pair);
         int place = Primes.placeOf(prime);
         return what == 0 ? couple.lowPower(place) : couple.highPower(place);
     }
 
     public int order(int measure, int other, int place) {
-        if (!isMeasure(measure) || !isMeasure(other) || !here.isCouple(place)) {
+        if (!isMeasure(measure) || !isMeasure(other) || !neighbours.isCouple(place)) {
             return NONE;
         }
-        return ranking.placed(here, measure, other, place);
+        return ranking.placed(neighbours, measure, other, place);
     }
 
     public int count(int measure, int low, int high) {
@@ -233,20 +246,20 @@ public final class SmoothNeighbours {
             return NONE;
         }
         int many = 0;
-        for (int pair = 0; pair < here.found; pair++) {
-            int value = here.measureOf(pair, measure);
+        for (int pair = 0; pair < neighbours.found; pair++) {
+            int value = neighbours.measureOf(pair, measure);
             many += value >= low && value <= high ? 1 : 0;
         }
         return many;
     }
 
     public int top(int measure) {
-        if (!isMeasure(measure) || here.found == 0) {
+        if (!isMeasure(measure) || neighbours.found == 0) {
             return NONE;
         }
         int best = 0;
-        for (int pair = 1; pair < here.found; pair++) {
-            if (here.measureOf(pair, measure) > here.measureOf(best, measure)) {
+        for (int pair = 1; pair < neighbours.found; pair++) {
+            if (neighbours.measureOf(pair, measure) > neighbours.measureOf(best, measure)) {
                 best = pair;
             }
         }
@@ -258,82 +271,82 @@ public final class SmoothNeighbours {
             return NONE;
         }
         int many = 0;
-        for (int pair = 0; pair < here.found; pair++) {
-            many += here.coupleAt(pair).low.digits() <= e ? 1 : 0;
+        for (int pair = 0; pair < neighbours.found; pair++) {
+            many += neighbours.coupleAt(pair).low.digits() <= e ? 1 : 0;
         }
         return many;
     }
 
     public int run(int i, int what) {
-        int first = here.startOfRun(i);
-        if (first < 0 || what < 0 || what > 1) {
+        int first = neighbours.startOfRun(i);
+        if (first == NONE || !isOneOfTwo(what)) {
             return NONE;
         }
-        return what == 0 ? first : here.pairsInRun(first) + 1;
+        return what == 0 ? first : neighbours.numbersInRun(first);
     }
 
     public int rank(int many) {
-        return many >= 0 && many <= here.found ? ranking.rankOf(here, many) : NONE;
+        return many >= 0 && many <= neighbours.found ? ranking.rankOf(neighbours, many) : NONE;
     }
 
     public int madeOf(int pair) {
-        return here.isCouple(pair) ? here.coupleAt(pair).madeOfBits() : NONE;
+        return neighbours.isCouple(pair) ? neighbours.coupleAt(pair).made : NONE;
     }
 
     public int madeBy(int set) {
         int many = 0;
-        for (int pair = 0; pair < here.found; pair++) {
-            many += here.coupleAt(pair).madeOfBits() == set ? 1 : 0;
+        for (int pair = 0; pair < neighbours.found; pair++) {
+            many += neighbours.coupleAt(pair).made == set ? 1 : 0;
         }
         return many;
     }
 
     public int share(int prime) {
-        if (!Primes.has(bits, prime)) {
+        if (!Primes.has(primes, prime)) {
             return NONE;
         }
         int many = 0;
-        for (int pair = 0; pair < here.found; pair++) {
-            many += Primes.has(here.coupleAt(pair).madeOfBits(), prime) ? 1 : 0;
+        for (int pair = 0; pair < neighbours.found; pair++) {
+            many += Primes.has(neighbours.coupleAt(pair).made, prime) ? 1 : 0;
         }
         return many;
     }
 
     public int threes() {
         int many = 0;
-        for (int pair = 1; pair < here.found; pair++) {
-            many += here.goesOn(pair) ? 1 : 0;
+        for (int pair = 0; pair < neighbours.found; pair++) {
+            many += neighbours.goesOn(pair) ? 1 : 0;
         }
         return many;
     }
 
     public int meanLength() {
-        if (here.found == 0) {
+        if (neighbours.found == 0) {
             return 0;
         }
         int all = 0;
-        for (int pair = 0; pair < here.found; pair++) {
-            all += here.coupleAt(pair).low.digits();
+        for (int pair = 0; pair < neighbours.found; pair++) {
+            all += neighbours.coupleAt(pair).low.digits();
         }
-        return floatBits((float) all / (float) here.found);
+        return floatBits((float) all / (float) neighbours.found);
     }
 
     // ---------------------------------------------------------------- other sets of primes
 
     public int would(int prime) {
-        return canCome(prime) ? pairsOf(bits | Primes.bitOf(prime)) : NONE;
+        return canCome(prime) ? neighbours.couplesFor(primes | Primes.bitOf(prime)) : NONE;
     }
 
     public int without(int prime) {
-        return Primes.has(bits, prime) ? pairsOf(bits & ~Primes.bitOf(prime)) : NONE;
+        return Primes.has(primes, prime) ? neighbours.couplesFor(primes & ~Primes.bitOf(prime)) : NONE;
     }
 
     public int bestPrime() {
         int best = NONE;
         int most = NONE;
-        for (int place = 0; place < Primes.MANY; place++) {
+        for (int place = 0; place < Primes.SEVEN; place++) {
             int prime = Primes.at(place);
-            int many = canCome(prime) ? pairsOf(bits | Primes.bitOf(prime)) : NONE;
+            int many = canCome(prime) ? neighbours.couplesFor(primes | Primes.bitOf(prime)) : NONE;
             if (many > most) {
                 most = many;
                 best = prime;
@@ -343,7 +356,8 @@ public final class SmoothNeighbours {
     }
 
     public int growth(int k) {
-        return k >= 0 && k <= Integer.bitCount(bits) ? pairsOf(Primes.lowest(bits, k)) : NONE;
+        boolean is = k >= 0 && k <= Integer.bitCount(primes);
+        return is ? neighbours.couplesFor(Primes.lowest(primes, k)) : NONE;
     }
 
     // ---------------------------------------------------------------- smooth numbers one by one
@@ -353,9 +367,9 @@ public final class SmoothNeighbours {
             return false;
         }
         int rest = n;
-        for (int place = 0; place < Primes.MANY; place++) {
+        for (int place = 0; place < Primes.SEVEN; place++) {
             int prime = Primes.at(place);
-            for (int times = 0; times < 31 && Primes.has(bits, prime) && rest % prime == 0; times++) {
+            for (int times = 0; times < 31 && Primes.has(primes, prime) && rest % prime == 0; times++) {
                 rest /= prime;
             }
         }
@@ -363,70 +377,67 @@ public final class SmoothNeighbours {
     }
 
     public int smoothUpTo(int n) {
-        return isBelowSieveEnd(n) ? readySieve().placeAbove(n) : NONE;
+        return isUpToSieveEnd(n) ? smooths.fill(primes).placeAbove(n) : NONE;
     }
 
     public int smoothAt(int k) {
-        return readySieve().valueAt(k);
+        return smooths.fill(primes).valueAt(k);
     }
 
     public int next(int n) {
-        return n >= 0 ? readySieve().valueAt(readySieve().placeAbove(n)) : NONE;
+        return isUpToSieveEnd(n) ? smooths.fill(primes).valueAbove(n) : NONE;
     }
 
     public int sieved(int upTo) {
-        return isBelowSieveEnd(upTo) ? readySieve().couplesUpTo(1, upTo) : NONE;
+        return isUpToSieveEnd(upTo) ? smooths.fill(primes).couplesUpTo(1, upTo) : NONE;
     }
 
     public boolean agrees(int upTo) {
-        return isBelowSieveEnd(upTo) && readySieve().saysTheSame(here, upTo);
+        return isUpToSieveEnd(upTo) && smooths.fill(primes).saysTheSame(neighbours, upTo);
     }
 
     public int gap(int upTo, int what) {
-        if (!isBelowSieveEnd(upTo) || what < 0 || what > 1) {
-            return NONE;
-        }
-        return readySieve().widest(upTo, what);
+        boolean is = isUpToSieveEnd(upTo) && isOneOfTwo(what);
+        return is ? smooths.fill(primes).widest(upTo, what == 0) : NONE;
     }
 
     public int apart(int d, int upTo) {
-        return d >= 1 && d <= 1000 && isBelowSieveEnd(upTo) ? readySieve().couplesUpTo(d, upTo) : NONE;
+        boolean is = d >= 1 && d <= 1000 && isUpToSieveEnd(upTo);
+        return is ? smooths.fill(primes).couplesUpTo(d, upTo) : NONE;
     }
 
     public int sums(int upTo, int what) {
-        if (upTo < 0 || upTo > SUMS_END || what < 0 || what > 1) {
-            return NONE;
-        }
-        return readySieve().sumsUpTo(upTo, what == 1);
+        boolean is = upTo >= 0 && upTo <= SUMS_END && isOneOfTwo(what);
+        return is ? smooths.fill(primes).sumsUpTo(upTo, what == 1) : NONE;
     }
 
     public long thick(int n) {
         if (n < 1 || n > SIEVE_END) {
             return 0;
         }
-        return doubleBits((double) readySieve().placeAbove(n) / (double) n);
+        return doubleBits((double) smooths.fill(primes).placeAbove(n) / (double) n);
     }
 
     public int greatLong(int k) {
-        return k >= 0 && k <= LAST_GREAT && readyGreats().reaches(k) ? greats.shown(k).digits() : NONE;
+        return greats.reaches(k, primes) ? greats.shown(k).digits() : NONE;
     }
 
     public int greatDigit(int k, int d) {
-        return k >= 0 && k <= LAST_GREAT && readyGreats().reaches(k) ? greats.shown(k).digitAt(d) : NONE;
+        return greats.reaches(k, primes) ? greats.shown(k).digitAt(d) : NONE;
     }
 
     // ---------------------------------------------------------------- numbers that are two apart
 
     public int twos() {
-        return readyTwos().found;
+        return twoApart.fill(primes).found;
     }
 
     public int twoClasses() {
-        return readyTwos().classes;
+        return twoApart.fill(primes).classes;
     }
 
     public int twoClass(int theClass, int what) {
-        if (!readyTwos().isClass(theClass)) {
+        if (!twoApart.fill(primes).isClass(theClass)) {
             return NONE;
         }
         Unit unit = twoApart.unitAt(theClass);
@@ -442,14 +453,14 @@ public final class SmoothNeighbours {
             case 4:
                 return unit.y.digits();
             case 5:
-                return Integer.bitCount(unit.indexes);
+                return Integer.bitCount(twoApart.indexesOf(theClass));
             default:
                 return NONE;
         }
     }
 
     public int two(int i, int what) {
-        if (!readyTwos().isCouple(i)) {
+        if (!twoApart.fill(primes).isCouple(i)) {
             return NONE;
         }
         Couple couple = twoApart.coupleAt(i);
@@ -470,17 +481,17 @@ public final class SmoothNeighbours {
     }
 
     public int twoDigit(int i, int k) {
-        return readyTwos().isCouple(i) ? twoApart.coupleAt(i).low.digitAt(k) : NONE;
+        return twoApart.fill(primes).isCouple(i) ? twoApart.coupleAt(i).low.digitAt(k) : NONE;
     }
 
     public boolean twosAgree(int upTo) {
-        return isBelowSieveEnd(upTo) && readySieve().saysTheSame(readyTwos(), upTo);
+        return isUpToSieveEnd(upTo) && smooths.fill(primes).saysTheSame(twoApart.fill(primes), upTo);
     }
 
     // ---------------------------------------------------------------- the tape, the number, the proof
 
     public int feed(int a, int b, int c, int d, int e) {
-        if (!tape.hasRoomFor(20)) {
+        if (!tape.hasRoomFor(FED_BYTES)) {
             return NONE;
         }
         tape.appendFour(a);
@@ -496,20 +507,20 @@ public final class SmoothNeighbours {
     }
 
     public int number() {
-        int digits = tape.numberDigits(NUMBER_DIGITS);
-        if (digits > 0) {
+        int digits = tape.isNumber(NUMBER_DIGITS) ? tape.length : NONE;
+        if (digits != NONE) {
             told.setTo(0);
-            for (int i = 0; i < digits; i++) {
+            for (int k = 0; k < digits; k++) {
                 told.multiply(10);
-                told.increase(tape.byteAt(i) - '0');
+                told.increase(tape.byteAt(k) - '0');
             }
         }
         tape.cutTo(0);
-        return digits > 0 ? digits : NONE;
+        return digits;
     }
 
     public int inNumber(int prime, int what) {
-        if (Primes.placeOf(prime) < 0 || what < 0 || what > 1) {
+        if (Primes.placeOf(prime) == NONE || !isOneOfTwo(what)) {
             return NONE;
         }
         spare.copy(told);
@@ -520,17 +531,15 @@ public final class SmoothNeighbours {
     public int ofNumber(int what) {
         switch (what) {
             case 0:
-                return told.isSmooth(bits, spare) ? 1 : 0;
+                return restOfNumber().asInt() == 1 ? 1 : 0;
             case 1:
-                return here.placeOf(told);
+                return neighbours.placeOf(told);
             case 2:
-                return readyTwos().placeOf(told);
+                return twoApart.fill(primes).placeOf(told);
             case 3:
-                spare.copy(told);
-                spare.stripAll(bits);
-                return spare.digits();
+                return restOfNumber().digits();
             case 4:
-                return here.lessThan(told);
+                return neighbours.lessThan(told);
             case 5:
                 return told.remainder(9973);
             default:
@@ -539,56 +548,38 @@ public final class SmoothNeighbours {
     }
 
     public int proof() {
-        written.write(here);
-        return written.length;
+        writeProof(writtenProof);
+        return writtenProof.length;
     }
 
     public int octet(int k) {
-        return k >= 0 && k < written.length ? written.byteAt(k) : NONE;
+        return writtenProof.byteAt(k);
     }
 
     public int proves() {
-        due.write(here);
-        int wrong = NONE;
-        for (int k = 0; k < due.length && wrong == NONE; k++) {
-            if (k >= tape.length || tape.byteAt(k) != due.byteAt(k)) {
-                wrong = k;
-            }
-        }
-        if (wrong == NONE && tape.length > due.length) {
-            wrong = due.length;
-        }
+        writeProof(dueProof);
+        int wrong = dueProof.firstUnlike(tape);
         tape.cutTo(0);
         return wrong;
     }
 
     // ---------------------------------------------------------------- what the calls share
 
-    private int renew(int newBits) {
-        bits = newBits;
-        if (here.bits != newBits) {
-            here.fill(newBits);
-        }
-        return here.found;
-    }
-
-    private int pairsOf(int set) {
-        if (set < 0 || set >= knownPairs.length) {
-            return NONE;
-        }
-        if (knownPairs[set] == 0) {
-            elsewhere.fill(set);
-            knownPairs[set] = elsewhere.found + 1;
-        }
-        return knownPairs[set] - 1;
-    }
-
     private boolean canCome(int prime) {
-        return Primes.placeOf(prime) >= 0 && !Primes.has(bits, prime) && Integer.bitCount(bits) < MOST_PRIMES;
+        return Primes.placeOf(prime) != NONE && !Primes.has(primes, prime)
+                && Integer.bitCount(primes) < MOST_PRIMES;
     }
 
     private boolean isStep(int theClass, int k) {
-        return here.isClass(theClass) && k >= 0 && k <= 2 * here.unitAt(theClass).round;
+        return neighbours.isClass(theClass) && k >= 0 && k <= 2 * neighbours.unitAt(theClass).round;
+    }
+
+    private int squareOf(int theClass) {
+        return neighbours.unitAt(theClass).square;
+    }
+
+    private static boolean isOneOfTwo(int what) {
+        return what == 0 || what == 1;
     }
 
     private static boolean isModulus(int m) {
@@ -599,25 +590,47 @@ public final class SmoothNeighbours {
         return measure >= 0 && measure < MEASURES;
     }
 
-    private static boolean isBelowSieveEnd(int n) {
+    private static boolean isUpToSieveEnd(int n) {
         return n >= 0 && n <= SIEVE_END;
     }
 
-    private Smooths readySieve() {
-        sieve.fill(bits);
-        return sieve;
-    }
-
-    private Greats readyGreats() {
-        greats.begin(bits);
-        return greats;
-    }
-
-    private Search readyTwos() {
-        if (twoApart.bits != bits) {
-            twoApart.fill(bits);
+    /** What is left of the number without the primes. */
+    private Big restOfNumber() {
+        spare.copy(told);
+        for (int place = 0; place < Primes.SEVEN; place++) {
+            int prime = Primes.at(place);
+            if (Primes.has(primes, prime)) {
+                spare.strip(prime);
+            }
         }
-        return twoApart;
+        return spare;
+    }
+
+    private void writeProof(Text text) {
+        text.cutTo(0);
+        for (int k = 0; k < neighbours.classes; k++) {
+            Unit unit = neighbours.unitAt(k);
+            text.appendInt(unit.q);
+            text.append(':');
+            text.appendBig(unit.x);
+            text.append(',');
+            text.appendBig(unit.y);
+            for (int i = 1; i <= neighbours.bound; i++) {
+                text.append(';');
+                appendWitness(text, unit.witnessFor(i, primes));
+            }
+            text.append('.');
+        }
+    }
+
+    private static void appendWitness(Text text, int witness) {
+        if (witness == 0) {
+            text.append('s');
+        } else if (witness == NO_WITNESS) {
+            text.append('?');
+        } else {
+            text.appendInt(witness);
+        }
     }
 
     /** The bits of a float from 1 on, found by halving alone, which loses nothing. */
@@ -642,19 +655,42 @@ public final class SmoothNeighbours {
         return (exponent << 52) | (long) ((rest - 1) * (1L << 52));
     }
 
-    /** The seven primes, sets of them as bits, and what is asked of single numbers. */
+    /** Primes below 1000, sets of the first seven of them as bits, and what is asked of single numbers. */
     private static final class Primes {
-        static final int MANY = 7;
-        private static final int[] SEVEN = {2, 3, 5, 7, 11, 13, 17};
+        static final int SEVEN = 7;
+        static final int MANY = 168;
+
+        private static final int[] LIST = {
+            2, 3, 5, 7, 11, 13, 17, 19, 23, 29, 31, 37, 41, 43, 47, 53, 59, 61, 67, 71, 73, 79, 83, 89, 97,
+            101, 103, 107, 109, 113, 127, 131, 137, 139, 149, 151, 157, 163, 167, 173, 179, 181, 191, 193, 197, 199,
+            211, 223, 227, 229, 233, 239, 241, 251, 257, 263, 269, 271, 277, 281, 283, 293,
+            307, 311, 313, 317, 331, 337, 347, 349, 353, 359, 367, 373, 379, 383, 389, 397,
+            401, 409, 419, 421, 431, 433, 439, 443, 449, 457, 461, 463, 467, 479, 487, 491, 499,
+            503, 509, 521, 523, 541, 547, 557, 563, 569, 571, 577, 587, 593, 599,
+            601, 607, 613, 617, 619, 631, 641, 643, 647, 653, 659, 661, 673, 677, 683, 691,
+            701, 709, 719, 727, 733, 739, 743, 751, 757, 761, 769, 773, 787, 797,
+            809, 811, 821, 823, 827, 829, 839, 853, 857, 859, 863, 877, 881, 883, 887,
+            907, 911, 919, 929, 937, 941, 947, 953, 967, 971, 977, 983, 991, 997
+        };
 
         /** A prime by its place; 1, which divides without harm, where there is none. */
         static int at(int place) {
-            return place >= 0 && place < SEVEN.length ? SEVEN[place] : 1;
+            return place >= 0 && place < LIST.length ? LIST[place] : 1;
         }
 
+        static boolean isPrime(int n) {
+            for (int place = 0; place < LIST.length; place++) {
+                if (LIST[place] == n) {
+                    return true;
+                }
+            }
+            return false;
+        }
+
+        /** The place of one of the seven. */
         static int placeOf(int prime) {
-            for (int place = 0; place < SEVEN.length; place++) {
-                if (SEVEN[place] == prime) {
+            for (int place = 0; place < SEVEN; place++) {
+                if (at(place) == prime) {
                     return place;
                 }
             }
@@ -663,17 +699,27 @@ public final class SmoothNeighbours {
 
         static int bitOf(int prime) {
             int place = placeOf(prime);
-            return place < 0 ? 0 : 1 << place;
+            return place == NONE ? 0 : 1 << place;
         }
 
         static boolean has(int set, int prime) {
             return (set & bitOf(prime)) != 0;
         }
 
+        static int leastOf(int set) {
+            for (int place = 0; place < SEVEN; place++) {
+                if ((set >> place & 1) == 1) {
+                    return at(place);
+                }
+            }
+            return NONE;
+        }
+
+        /** 0 for no primes. */
         static int greatest(int set) {
             int best = 0;
-            for (int place = 0; place < SEVEN.length; place++) {
-                best = (set >> place & 1) == 1 ? SEVEN[place] : best;
+            for (int place = 0; place < SEVEN; place++) {
+                best = (set >> place & 1) == 1 ? at(place) : best;
             }
             return best;
         }
@@ -684,29 +730,18 @@ public final class SmoothNeighbours {
 
         static int product(int set) {
             int all = 1;
-            for (int place = 0; place < SEVEN.length; place++) {
-                all *= (set >> place & 1) == 1 ? SEVEN[place] : 1;
+            for (int place = 0; place < SEVEN; place++) {
+                all *= (set >> place & 1) == 1 ? at(place) : 1;
             }
             return all;
         }
 
         static int lowest(int set, int many) {
             int chosen = 0;
-            for (int place = 0; place < SEVEN.length; place++) {
-                if (Integer.bitCount(chosen) < many) {
-                    chosen |= set & 1 << place;
-                }
+            for (int place = 0; place < SEVEN && Integer.bitCount(chosen) < many; place++) {
+                chosen |= set & 1 << place;
             }
             return chosen;
-        }
-
-        static boolean isPrime(int n) {
-            for (int d = 2; d < 1000 && d * d <= n; d++) {
-                if (n % d == 0) {
-                    return false;
-                }
-            }
-            return n >= 2;
         }
 
         static long rootOf(long n) {
@@ -725,7 +760,7 @@ public final class SmoothNeighbours {
         }
     }
 
-    /** A whole number from 0 on, as long as its row of limbs to the base 10 to the 9. */
+    /** A whole number from 0 on, as long as its row of limbs to the base 10 to the 9; the top limb is not 0. */
     private static final class Big {
         private static final int BASE = 1000000000;
         private static final int LIMB_DIGITS = 9;
@@ -737,22 +772,19 @@ public final class SmoothNeighbours {
             limbs = new int[capacity > 0 ? capacity : 1];
         }
 
+        /** Takes a value below the base. */
         void setTo(int value) {
-            size = 0;
-            int rest = value;
-            for (int i = 0; i < limbs.length && rest > 0; i++) {
-                limbs[i] = rest % BASE;
-                rest /= BASE;
-                size = i + 1;
+            size = value > 0 && limbs.length > 0 ? 1 : 0;
+            if (size == 1) {
+                limbs[0] = value;
             }
         }
 
         void copy(Big other) {
-            int many = Math.min(other.size, limbs.length);
-            for (int i = 0; i < many && i < limbs.length && i < other.limbs.length; i++) {
-                limbs[i] = other.limbs[i];
+            size = Math.min(other.size, limbs.length);
+            for (int i = 0; i < size && i < limbs.length; i++) {
+                limbs[i] = other.limbAt(i);
             }
-            size = many;
         }
 
         void load(int[] row, int from, int many) {
@@ -763,6 +795,7 @@ public final class SmoothNeighbours {
             }
         }
 
+        /** Puts the limbs into a row: how many. */
         int store(int[] row, int from) {
             for (int i = 0; i < size && i < limbs.length && from >= 0 && from < row.length - i; i++) {
                 row[from + i] = limbs[i];
@@ -773,23 +806,22 @@ public final class SmoothNeighbours {
         void multiply(int factor) {
             long carry = 0;
             for (int i = 0; i < limbs.length && (i < size || carry > 0); i++) {
-                long sum = carry + (i < size ? (long) limbs[i] * factor : 0);
+                long sum = carry + (long) limbAt(i) * factor;
                 limbs[i] = (int) (sum % BASE);
                 carry = sum / BASE;
                 size = Math.max(size, i + 1);
             }
-            trim();
         }
 
         /** This is a times b; neither of them may be this. */
         void setProduct(Big a, Big b) {
             size = Math.min(a.size + b.size, limbs.length);
             Arrays.fill(limbs, 0);
-            for (int i = 0; i < a.size && i < a.limbs.length; i++) {
+            for (int i = 0; i < a.size; i++) {
+                long factor = a.limbAt(i);
                 long carry = 0;
-                for (int j = 0; i + j < size && i + j < limbs.length; j++) {
-                    long product = j < b.size && j < b.limbs.length ? (long) a.limbs[i] * b.limbs[j] : 0;
-                    long sum = product + limbs[i + j] + carry;
+                for (int j = 0; j <= b.size && i + j < limbs.length; j++) {
+                    long sum = factor * b.limbAt(j) + limbs[i + j] + carry;
                     limbs[i + j] = (int) (sum % BASE);
                     carry = sum / BASE;
                 }
@@ -838,14 +870,31 @@ public final class SmoothNeighbours {
             trim();
         }
 
+        /** This becomes so many times itself and the one ahead, which becomes what this was. */
+        void follow(int times, Big ahead) {
+            int was = size;
+            long carry = 0;
+            for (int i = 0; i < limbs.length && i < ahead.limbs.length && (i < was || carry > 0); i++) {
+                int mine = limbAt(i);
+                long sum = carry + (long) mine * times + ahead.limbAt(i);
+                ahead.limbs[i] = mine;
+                limbs[i] = (int) (sum % BASE);
+                carry = sum / BASE;
+                size = Math.max(size, i + 1);
+            }
+            ahead.size = Math.min(was, ahead.limbs.length);
+        }
+
         void divide(int divisor) {
             long rest = 0;
             for (int i = Math.min(size, limbs.length) - 1; i >= 0 && divisor > 0; i--) {
                 long part = rest * BASE + limbs[i];
                 limbs[i] = (int) (part / divisor);
                 rest = part % divisor;
+                if (limbs[i] == 0 && i == size - 1) {
+                    size = i;
+                }
             }
-            trim();
         }
 
         int remainder(int divisor) {
@@ -869,32 +918,22 @@ public final class SmoothNeighbours {
             return times;
         }
 
-        void stripAll(int set) {
-            for (int place = 0; place < Primes.MANY; place++) {
-                if ((set >> place & 1) == 1) {
-                    strip(Primes.at(place));
-                }
-            }
-        }
-
-        boolean isSmooth(int set, Big room) {
-            room.copy(this);
-            room.stripAll(set);
-            return room.size == 1 && room.limbAt(0) == 1;
-        }
-
         int compareWith(Big other) {
             if (size != other.size) {
                 return size < other.size ? -1 : 1;
             }
-            for (int i = Math.min(size, limbs.length) - 1; i >= 0; i--) {
-                int mine = limbs[i];
+            for (int i = size - 1; i >= 0; i--) {
+                int mine = limbAt(i);
                 int its = other.limbAt(i);
                 if (mine != its) {
                     return mine < its ? -1 : 1;
                 }
             }
             return 0;
+        }
+
+        int limbCount() {
+            return size;
         }
 
         int digits() {
@@ -921,8 +960,7 @@ public final class SmoothNeighbours {
             return size > 1 ? NONE : limbAt(0);
         }
 
-        /** The number as far as 64 bits hold it. */
-        int limbAt(int i) {
+        private int limbAt(int i) {
             return i >= 0 && i < size && i < limbs.length ? limbs[i] : 0;
         }
 
@@ -936,13 +974,12 @@ public final class SmoothNeighbours {
     /** The fraction of a square root, walked step by step. */
     private static final class Fraction {
         private static final int MOST_STEPS = 1000000;
-        private static final int LIMBS = 12;
+        private static final int LIMBS = 8;
 
         final Big p = new Big(LIMBS);
         final Big r = new Big(LIMBS);
         private final Big pAhead = new Big(LIMBS);
         private final Big rAhead = new Big(LIMBS);
-        private final Big room = new Big(LIMBS);
         private int square;
         private int root;
         private int m;
@@ -982,18 +1019,10 @@ public final class SmoothNeighbours {
                 if (d == 1) {
                     return steps;
                 }
-                follow(p, pAhead);
-                follow(r, rAhead);
+                p.follow(a, pAhead);
+                r.follow(a, rAhead);
             }
             return 1;
-        }
-
-        private void follow(Big latest, Big ahead) {
-            room.copy(latest);
-            room.multiply(a);
-            room.plus(ahead);
-            ahead.copy(latest);
-            latest.copy(room);
         }
 
         int wholeBehind(int ofSquare, int steps) {
@@ -1006,13 +1035,13 @@ public final class SmoothNeighbours {
             return d;
         }
 
-        int nearingLeft(int ofSquare, int steps, int what, int modulus) {
-            begin(ofSquare);
+        int nearingModulo(int ofSquare, int steps, boolean isOfP, int modulus) {
             if (modulus < 1) {
-                return 0;
+                return NONE;
             }
-            long ahead = what == 0 ? 1 : 0;
-            long latest = (what == 0 ? root : 1) % modulus;
+            begin(ofSquare);
+            long ahead = isOfP ? 1 : 0;
+            long latest = (isOfP ? root : 1) % modulus;
             for (int k = 0; k < steps && k < MOST_STEPS; k++) {
                 advance();
                 long following = (a * latest + ahead) % modulus;
@@ -1022,56 +1051,58 @@ public final class SmoothNeighbours {
             return (int) latest;
         }
 
-        /** What is left is below twice the root, so longs that wrap around have it right though p and r are longer. */
-        int leavesBehind(int ofSquare, int steps) {
+        /** What is left is below twice the root, so longs that wrap around have it right, long as p and r are. */
+        int leftBehind(int ofSquare, int steps) {
             begin(ofSquare);
-            long over = 1;
-            long under = 0;
+            long above = 1;
+            long below = 0;
             long top = root;
-            long low = 1;
+            long bottom = 1;
             for (int k = 0; k < steps && k < MOST_STEPS; k++) {
                 advance();
-                long nextTop = a * top + over;
-                long nextLow = a * low + under;
-                over = top;
-                under = low;
+                long nextTop = a * top + above;
+                long nextBottom = a * bottom + below;
+                above = top;
+                below = bottom;
                 top = nextTop;
-                low = nextLow;
+                bottom = nextBottom;
             }
-            return (int) (top * top - ofSquare * low * low);
+            return (int) (top * top - ofSquare * bottom * bottom);
         }
     }
 
-    /** A class: its square, its unit, and what of the unit's powers is told again and again. */
+    /** A class: its square, its unit, and what holds of the unit's powers whatever the primes are. */
     private static final class Unit {
         private static final int LIMBS = 8;
-        private static final int MOST_INDEXES = 9;
 
         final Big x = new Big(LIMBS);
         final Big y = new Big(LIMBS);
-        private final int[] lengths = new int[MOST_INDEXES + 1];
-        int q;
-        int square;
-        int root;
-        int round;
-        int indexes;
+        final int q;
+        final int square;
+        final int root;
+        final int round;
+        /** All by the index of a power: its length, which of the seven primes divide n or the number that
+         *  goes with it, the least greater prime that does (0: not asked yet), the two if they are smooth. */
+        private final int[] lengths = new int[LAST_INDEX + 1];
+        private final int[] divisors = new int[LAST_INDEX + 1];
+        private final int[] beyond = new int[LAST_INDEX + 1];
+        private final Couple[] couples = new Couple[LAST_INDEX + 1];
 
-        void learn(int ofQ, int ofSquare, Fraction fraction, Big room) {
+        Unit(int ofQ, int ofSquare, Fraction fraction) {
             q = ofQ;
             square = ofSquare;
             root = (int) Primes.rootOf(ofSquare);
             round = fraction.walkRound(ofSquare);
-            indexes = 0;
-            if (isNegative()) {
-                x.setProduct(fraction.p, fraction.p);
-                room.setProduct(fraction.r, fraction.r);
-                room.multiply(square);
-                x.plus(room);
-                y.setProduct(fraction.p, fraction.r);
-                y.multiply(2);
-            } else {
+            if (round % 2 == 0) {
                 x.copy(fraction.p);
                 y.copy(fraction.r);
+            } else {
+                y.setProduct(fraction.r, fraction.r);
+                y.multiply(ofSquare);
+                x.setProduct(fraction.p, fraction.p);
+                x.plus(y);
+                y.setProduct(fraction.p, fraction.r);
+                y.multiply(2);
             }
         }
 
@@ -1079,9 +1110,11 @@ public final class SmoothNeighbours {
             return round % 2 == 1;
         }
 
-        void noteDigits(int i, int digits) {
-            if (i >= 0 && i < lengths.length) {
-                lengths[i] = digits;
+        void note(int i, int length, int dividing, Couple couple) {
+            if (i >= 0 && i < lengths.length && i < divisors.length && i < couples.length) {
+                lengths[i] = length;
+                divisors[i] = dividing;
+                couples[i] = couple;
             }
         }
 
@@ -1089,8 +1122,48 @@ public final class SmoothNeighbours {
             return i > 0 && i < lengths.length ? lengths[i] : 1;
         }
 
-        boolean hasIndex(int i) {
-            return i >= 1 && i <= 31 && (indexes >> i - 1 & 1) == 1;
+        /** The couple of an index, if these primes are enough for it; else null. */
+        Couple coupleFor(int i, int primes) {
+            Couple couple = i >= 0 && i < couples.length ? couples[i] : null;
+            return couple != null && (couple.made & ~primes) == 0 ? couple : null;
+        }
+
+        int indexesFor(int primes) {
+            int bound = Primes.boundOf(primes);
+            int indexes = 0;
+            for (int i = 1; i <= bound; i++) {
+                indexes |= coupleFor(i, primes) != null ? 1 << i - 1 : 0;
+            }
+            return indexes;
+        }
+
+        int witnessFor(int i, int primes) {
+            if (i < 1 || i >= beyond.length || i >= divisors.length) {
+                return NONE;
+            }
+            int others = divisors[i] & ~primes;
+            if (others != 0) {
+                return Primes.leastOf(others);
+            }
+            if (coupleFor(i, primes) != null) {
+                return 0;
+            }
+            if (beyond[i] == 0) {
+                beyond[i] = greaterDivisor(i);
+            }
+            return beyond[i];
+        }
+
+        /** The power is odd: what twice s leaves of it tells what s leaves of its half, downward. */
+        private int greaterDivisor(int i) {
+            for (int place = Primes.SEVEN; place < Primes.MANY; place++) {
+                int s = Primes.at(place);
+                int low = (powerLeft(i, 2 * s) - 1) / 2;
+                if (low % s == 0 || (low + 1) % s == 0) {
+                    return s;
+                }
+            }
+            return NO_WITNESS;
         }
 
         int powerLeft(int i, int modulus) {
@@ -1127,31 +1200,27 @@ public final class SmoothNeighbours {
         }
     }
 
-    /** Two smooth numbers that were found: the lesser one, where it comes from, the powers in both. */
+    /** Two smooth numbers that were found: the lesser one, its index, the powers of the seven primes in both. */
     private static final class Couple {
         final Big low;
-        private final int[] lowPowers = new int[Primes.MANY];
-        private final int[] highPowers = new int[Primes.MANY];
+        final int index;
+        final int made;
+        private final int[] lowPowers = new int[Primes.SEVEN];
+        private final int[] highPowers = new int[Primes.SEVEN];
+        /** Its class, which goes with the primes as they are now. */
         int family;
-        int index;
 
-        Couple(int limbs) {
-            low = new Big(limbs);
-        }
-
-        void learn(Big number, int apart, int ofFamily, int ofIndex, Big room) {
+        Couple(Big number, int ofIndex, int[] inLow, int[] inHigh) {
+            low = new Big(number.limbCount());
             low.copy(number);
-            family = ofFamily;
             index = ofIndex;
-            room.copy(number);
-            for (int place = 0; place < lowPowers.length; place++) {
-                lowPowers[place] = room.strip(Primes.at(place));
+            int set = 0;
+            for (int place = 0; place < Primes.SEVEN && place < inLow.length && place < inHigh.length; place++) {
+                lowPowers[place] = inLow[place];
+                highPowers[place] = inHigh[place];
+                set |= inLow[place] + inHigh[place] > 0 ? 1 << place : 0;
             }
-            room.copy(number);
-            room.increase(apart);
-            for (int place = 0; place < highPowers.length; place++) {
-                highPowers[place] = room.strip(Primes.at(place));
-            }
+            made = set;
         }
 
         int lowPower(int place) {
@@ -1162,28 +1231,77 @@ public final class SmoothNeighbours {
             return place >= 0 && place < highPowers.length ? highPowers[place] : 0;
         }
 
-        int madeOfBits() {
-            int set = 0;
-            for (int place = 0; place < Primes.MANY; place++) {
-                set |= lowPower(place) + highPower(place) > 0 ? 1 << place : 0;
-            }
-            return set;
-        }
-
         int weight() {
             int all = 0;
-            for (int place = 0; place < Primes.MANY; place++) {
+            for (int place = 0; place < Primes.SEVEN; place++) {
                 all += lowPower(place) + highPower(place);
             }
             return all;
         }
 
-        int primesMoreBelow() {
+        int primesMoreInLow() {
             int more = 0;
-            for (int place = 0; place < Primes.MANY; place++) {
+            for (int place = 0; place < Primes.SEVEN; place++) {
                 more += (lowPower(place) > 0 ? 1 : 0) - (highPower(place) > 0 ? 1 : 0);
             }
             return more;
+        }
+    }
+
+    /** The powers of a unit, one behind the other, and the couples that come of them. */
+    private static final class Powers {
+        private static final int LIMBS = 32;
+
+        private final Big before = new Big(LIMBS);
+        private final Big now = new Big(LIMBS);
+        private final Big after = new Big(LIMBS);
+        private final Big low = new Big(LIMBS);
+        private final Big rest = new Big(LIMBS);
+        private final int[] lowPowers = new int[Primes.SEVEN];
+        private final int[] highPowers = new int[Primes.SEVEN];
+        private final int apart;
+
+        Powers(int apartBy) {
+            apart = apartBy;
+        }
+
+        void begin(Unit unit) {
+            before.setTo(1);
+            now.copy(unit.x);
+        }
+
+        void advance(Unit unit) {
+            after.setProduct(unit.x, now);
+            after.multiply(2);
+            after.minus(before);
+            before.copy(now);
+            now.copy(after);
+        }
+
+        /** For neighbours the square is even, so the power is odd and its half comes out whole. */
+        void tell(Unit unit, int i) {
+            low.copy(now);
+            low.decrease();
+            if (apart == 1) {
+                low.divide(2);
+            }
+            rest.copy(low);
+            int dividing = factor(lowPowers);
+            boolean areSmooth = rest.asInt() == 1;
+            rest.copy(low);
+            rest.increase(apart);
+            dividing |= factor(highPowers);
+            areSmooth = areSmooth && rest.asInt() == 1;
+            unit.note(i, now.digits(), dividing, areSmooth ? new Couple(low, i, lowPowers, highPowers) : null);
+        }
+
+        private int factor(int[] powers) {
+            int dividing = 0;
+            for (int place = 0; place < Primes.SEVEN && place < powers.length; place++) {
+                powers[place] = rest.strip(Primes.at(place));
+                dividing |= powers[place] > 0 ? 1 << place : 0;
+            }
+            return dividing;
         }
     }
 
@@ -1192,19 +1310,16 @@ public final class SmoothNeighbours {
         private static final int MOST_CLASSES = 32;
         private static final int MOST_COUPLES = 64;
         private static final int LIMBS = 32;
-        private static final int LAST_WITNESS = 1000;
 
+        private final Fraction fraction = new Fraction();
+        private final Unit noUnit = new Unit(1, 2, fraction);
+        private final Couple noCouple = new Couple(new Big(1), 0, new int[0], new int[0]);
+        /** By the set of a class: a class is learnt once, when some primes have it first. */
+        private final Unit[] known = new Unit[SETS];
         private final Unit[] units = new Unit[MOST_CLASSES];
         private final Couple[] couples = new Couple[MOST_COUPLES];
-        private final int[] products = new int[MOST_CLASSES];
-        private final Unit noUnit = new Unit();
-        private final Couple noCouple = new Couple(1);
-        private final Fraction fraction = new Fraction();
-        private final Big before = new Big(LIMBS);
-        private final Big now = new Big(LIMBS);
-        private final Big after = new Big(LIMBS);
-        private final Big candidate = new Big(LIMBS);
-        private final Big room = new Big(LIMBS);
+        private final Big spare = new Big(LIMBS);
+        private final Powers powers;
         /** 1 for neighbours, 2 for numbers that are two apart. */
         final int apart;
         int bits = NONE;
@@ -1214,114 +1329,88 @@ public final class SmoothNeighbours {
 
         Search(int apartBy) {
             apart = apartBy;
-            for (int i = 0; i < units.length; i++) {
-                units[i] = new Unit();
-            }
-            for (int i = 0; i < couples.length; i++) {
-                couples[i] = new Couple(LIMBS);
-            }
+            powers = new Powers(apartBy);
         }
 
-        void fill(int ofBits) {
-            bits = ofBits;
-            bound = Primes.boundOf(ofBits);
+        Search fill(int primes) {
+            if (bits == primes) {
+                return this;
+            }
+            bits = primes;
+            bound = Primes.boundOf(primes);
             classes = 0;
             found = 0;
             for (int set = 0; set < SETS; set++) {
+                if (isClassOf(set, primes)) {
+                    enterUnit(unitOf(set));
+                }
+            }
+            for (int k = 0; k < classes; k++) {
+                for (int i = 1; i <= bound; i++) {
+                    enterCouple(unitAt(k).coupleFor(i, primes), k);
+                }
+            }
+            return this;
+        }
+
+        int couplesFor(int primes) {
+            int many = 0;
+            for (int set = 0; set < SETS; set++) {
+                if (isClassOf(set, primes)) {
+                    many += Integer.bitCount(unitOf(set).indexesFor(primes));
+                }
+            }
+            return many;
+        }
+
+        /** A class whose D were a square has no unit: among neighbours 2, among those two apart 1. */
+        private boolean isClassOf(int set, int primes) {
+            return (set & ~primes) == 0 && set != (apart == 1 ? 1 : 0);
+        }
+
+        private Unit unitOf(int set) {
+            if (set < 0 || set >= known.length) {
+                return noUnit;
+            }
+            Unit unit = known[set];
+            if (unit == null) {
                 int q = Primes.product(set);
-                if ((set & ~ofBits) == 0 && isProductOfClass(q)) {
-                    placeProduct(q);
+                unit = new Unit(q, apart == 1 ? 2 * q : q, fraction);
+                powers.begin(unit);
+                for (int i = 1; i <= LAST_INDEX; i++) {
+                    powers.tell(unit, i);
+                    powers.advance(unit);
                 }
+                known[set] = unit;
             }
-            for (int k = 0; k < classes && k < products.length; k++) {
-                Unit unit = unitAt(k);
-                unit.learn(products[k], apart == 1 ? 2 * products[k] : products[k], fraction, room);
-                searchPowers(k, unit);
-            }
+            return unit;
         }
 
-        /** A class whose D were a square has no unit. */
-        private boolean isProductOfClass(int q) {
-            return apart == 1 ? q != 2 : q != 1;
-        }
-
-        private void placeProduct(int q) {
-            if (classes >= products.length) {
-                return;
-            }
+        private void enterUnit(Unit unit) {
             int place = classes;
-            for (int k = classes; k >= 1 && k < products.length && products[k - 1] > q; k--) {
-                products[k] = products[k - 1];
-                place = k - 1;
-            }
-            if (place >= 0 && place < products.length) {
-                products[place] = q;
-                classes++;
-            }
-        }
-
-        private void searchPowers(int k, Unit unit) {
-            before.setTo(1);
-            now.copy(unit.x);
-            for (int i = 1; i <= bound; i++) {
-                unit.noteDigits(i, now.digits());
-                if (becomesCandidate() && candidate.isSmooth(bits, room)) {
-                    candidate.increase(apart);
-                    if (candidate.isSmooth(bits, room)) {
-                        unit.indexes |= 1 << i - 1;
-                        becomesCandidate();
-                        enter(k, i);
-                    }
-                }
-                if (i < bound) {
-                    toNextPower(unit);
-                }
-            }
-        }
-
-        /** Makes of the power that stands in now the number that may be a couple's lesser one. */
-        private boolean becomesCandidate() {
-            candidate.copy(now);
-            candidate.decrease();
-            if (apart == 1) {
-                candidate.divide(2);
-                return now.remainder(2) == 1;
-            }
-            return true;
-        }
-
-        private void toNextPower(Unit unit) {
-            after.setProduct(unit.x, now);
-            after.multiply(2);
-            after.minus(before);
-            before.copy(now);
-            now.copy(after);
-        }
-
-        private void enter(int k, int i) {
-            if (found < 0 || found >= couples.length) {
+            if (place < 0 || place >= units.length) {
                 return;
             }
-            Couple couple = coupleFor(found);
-            couple.learn(candidate, apart, k, i, room);
-            int place = found;
-            for (int j = found; j >= 1 && j < couples.length; j--) {
-                Couple lesser = coupleFor(j - 1);
-                if (lesser.low.compareWith(candidate) < 0) {
-                    break;
-                }
-                couples[j] = lesser;
-                place = j - 1;
+            while (place > 0 && unitAt(place - 1).q > unit.q) {
+                units[place] = unitAt(place - 1);
+                place--;
             }
-            if (place >= 0 && place < couples.length) {
-                couples[place] = couple;
-                found++;
-            }
+            units[place] = unit;
+            classes++;
         }
 
-        private Couple coupleFor(int i) {
-            Couple couple = i >= 0 && i < couples.length ? couples[i] : noCouple;
-            return couple == null ? noCouple : couple;
+        private void enterCouple(Couple couple, int family) {
+            int place = found;
+            if (couple == null || place < 0 || place >= couples.length) {
+                return;
+            }
+            couple.family = family;
+            found++;
+            while (place > 0 && coupleAt(place - 1).low.compareWith(couple.low) > 0) {
+                couples[place] = coupleAt(place - 1);
+                place--;
+            }
+            couples[place] = couple;
         }
 
         boolean isClass(int k) {
@@ -1333,12 +1422,22 @@ public final class SmoothNeighbours {
         }
 
         Unit unitAt(int k) {
-            Unit unit = k >= 0 && k < units.length ? units[k] : noUnit;
+            Unit unit = k >= 0 && k < classes && k < units.length ? units[k] : null;
             return unit == null ? noUnit : unit;
         }
 
         Couple coupleAt(int i) {
-            return isCouple(i) ? coupleFor(i) : noCouple;
+            Couple couple = i >= 0 && i < found && i < couples.length ? couples[i] : null;
+            return couple == null ? noCouple : couple;
+        }
+
+        /** The lesser number of a couple, if there is the couple and the number is below 10 to the 9; else NONE. */
+        int smallAt(int i) {
+            return isCouple(i) ? coupleAt(i).low.asInt() : NONE;
+        }
+
+        int indexesOf(int k) {
+            return unitAt(k).indexesFor(bits);
         }
 
         int negatives() {
@@ -1352,7 +1451,7 @@ public final class SmoothNeighbours {
         int classesWithCouples() {
             int many = 0;
             for (int k = 0; k < classes; k++) {
-                many += unitAt(k).indexes != 0 ? 1 : 0;
+                many += indexesOf(k) != 0 ? 1 : 0;
             }
             return many;
         }
@@ -1382,26 +1481,18 @@ public final class SmoothNeighbours {
             return many;
         }
 
-        /** Whether a couple's lesser number is one more than that of the couple ahead of it. */
+        /** Whether a couple shares its lesser number with the couple ahead of it. */
         boolean goesOn(int i) {
             if (i < 1 || !isCouple(i)) {
                 return false;
             }
-            room.copy(coupleAt(i - 1).low);
-            room.increase(1);
-            return room.compareWith(coupleAt(i).low) == 0;
-        }
-
-        int pairsInRun(int first) {
-            int last = first;
-            for (int i = first + 1; i < found && goesOn(i); i++) {
-                last = i;
-            }
-            return last - first + 1;
+            spare.copy(coupleAt(i - 1).low);
+            spare.increase(1);
+            return spare.compareWith(coupleAt(i).low) == 0;
         }
 
         private boolean startsRun(int i) {
-            return !goesOn(i) && goesOn(i + 1);
+            return goesOn(i + 1) && !goesOn(i);
         }
 
         int runsOfThree() {
@@ -1413,16 +1504,24 @@ public final class SmoothNeighbours {
         }
 
         int startOfRun(int which) {
-            int many = 0;
-            for (int i = 0; i < found && which >= 0; i++) {
+            int ahead = 0;
+            for (int i = 0; i < found; i++) {
                 if (startsRun(i)) {
-                    if (many == which) {
+                    if (ahead == which) {
                         return i;
                     }
-                    many++;
+                    ahead++;
                 }
             }
             return NONE;
+        }
+
+        int numbersInRun(int first) {
+            int numbers = 2;
+            for (int i = first + 1; i < found && goesOn(i); i++) {
+                numbers++;
+            }
+            return numbers;
         }
 
         int measureOf(int i, int measure) {
@@ -1439,35 +1538,16 @@ public final class SmoothNeighbours {
                 case 4:
                     return couple.weight();
                 case 5:
-                    return Primes.greatest(couple.madeOfBits());
+                    return Primes.greatest(couple.made);
                 case 6:
-                    return Primes.product(couple.madeOfBits());
+                    return Primes.product(couple.made);
                 case 7:
                     return couple.low.remainder(10000);
                 case 8:
-                    return couple.primesMoreBelow();
+                    return couple.primesMoreInLow();
                 default:
                     return NO_MEASURE;
             }
-        }
-
-        int witnessOf(int k, int i) {
-            Unit unit = unitAt(k);
-            if (unit.hasIndex(i)) {
-                return 0;
-            }
-            for (int s = 2; s < LAST_WITNESS; s++) {
-                if (Primes.isPrime(s) && !Primes.has(bits, s) && dividesCouple(unit, i, s)) {
-                    return s;
-                }
-            }
-            return NO_WITNESS;
-        }
-
-        /** The power is odd: left by twice s it tells what its half, downward, leaves by s. */
-        private static boolean dividesCouple(Unit unit, int i, int s) {
-            int low = (unit.powerLeft(i, 2 * s) - 1) / 2;
-            return s > 0 && (low % s == 0 || (low + 1) % s == 0);
         }
     }
 
@@ -1477,30 +1557,31 @@ public final class SmoothNeighbours {
         private static final int FIELD = 10007;
 
         private final int[] places = new int[MOST_PLACES];
-        private final int[] basis = new int[Primes.MANY * Primes.MANY];
-        private final int[] row = new int[Primes.MANY];
+        private final int[] measures = new int[MOST_PLACES];
+        private final int[] others = new int[MOST_PLACES];
+        private final int[] basis = new int[Primes.SEVEN * Primes.SEVEN];
+        private final int[] row = new int[Primes.SEVEN];
 
         int placed(Search pairs, int measure, int other, int place) {
-            for (int i = 0; i < pairs.found && i < places.length; i++) {
+            for (int i = 0; i < pairs.found && i < MOST_PLACES; i++) {
+                measures[i] = pairs.measureOf(i, measure);
+                others[i] = pairs.measureOf(i, other);
                 int hole = i;
-                for (int j = i; j >= 1 && j < places.length; j--) {
-                    if (!isAhead(pairs, measure, other, i, places[j - 1])) {
-                        break;
-                    }
-                    places[j] = places[j - 1];
-                    hole = j - 1;
+                while (hole > 0 && isAhead(i, places[hole - 1])) {
+                    places[hole] = places[hole - 1];
+                    hole--;
                 }
-                if (hole >= 0 && hole < places.length) {
-                    places[hole] = i;
-                }
+                places[hole] = i;
             }
             return place >= 0 && place < places.length ? places[place] : NONE;
         }
 
-        /** Of pairs that are like in both measures the lesser one stands already where it must. */
-        private static boolean isAhead(Search pairs, int measure, int other, int one, int two) {
-            int first = Integer.compare(pairs.measureOf(one, measure), pairs.measureOf(two, measure));
-            return first < 0 || first == 0 && pairs.measureOf(one, other) < pairs.measureOf(two, other);
+        /** Pairs come in by size: of those that are like in both measures the earlier one stays ahead. */
+        private boolean isAhead(int one, int two) {
+            if (one < 0 || one >= MOST_PLACES || two < 0 || two >= MOST_PLACES) {
+                return false;
+            }
+            return measures[one] < measures[two] || measures[one] == measures[two] && others[one] < others[two];
         }
 
         int rankOf(Search pairs, int many) {
@@ -1519,23 +1600,23 @@ public final class SmoothNeighbours {
         /** Row k of the basis is empty or has its first entry that is not 0 at k. */
         private boolean entersBasis() {
             for (int k = 0; k < row.length; k++) {
-                if (row[k] != 0 && basisAt(k, k) == 0) {
-                    for (int j = 0; j < row.length && k * Primes.MANY + j < basis.length; j++) {
-                        basis[k * Primes.MANY + j] = row[j];
+                int mine = row[k];
+                long its = basisAt(k, k);
+                if (mine != 0 && its == 0) {
+                    for (int j = 0; j < row.length && k * Primes.SEVEN + j < basis.length; j++) {
+                        basis[k * Primes.SEVEN + j] = row[j];
                     }
                     return true;
                 }
-                int mine = row[k];
-                int its = basisAt(k, k);
                 for (int j = 0; j < row.length && mine != 0; j++) {
-                    row[j] = (int) Math.floorMod((long) row[j] * its - (long) basisAt(k, j) * mine, (long) FIELD);
+                    row[j] = (int) Math.floorMod(row[j] * its - (long) basisAt(k, j) * mine, (long) FIELD);
                 }
             }
             return false;
         }
 
         private int basisAt(int k, int j) {
-            int place = k * Primes.MANY + j;
+            int place = k * Primes.SEVEN + j;
             return place >= 0 && place < basis.length ? basis[place] : 0;
         }
     }
@@ -1547,41 +1628,45 @@ public final class SmoothNeighbours {
         private final int[] values = new int[MOST];
         private final int[] sets = new int[MOST];
         /** For each prime the place of the number that it multiplies next. */
-        private final int[] turns = new int[Primes.MANY];
+        private final int[] turns = new int[Primes.SEVEN];
+        /** How many sums there are up to a number, and how many of these lie above their radical. */
+        private final int[] sums = new int[SUMS_END + 1];
+        private final int[] rareSums = new int[SUMS_END + 1];
+        private boolean sumsAreKnown;
         private int bits = NONE;
         private int many;
 
-        void fill(int ofBits) {
-            if (bits == ofBits) {
-                return;
+        Smooths fill(int primes) {
+            if (bits == primes) {
+                return this;
             }
-            bits = ofBits;
+            bits = primes;
+            sumsAreKnown = false;
             Arrays.fill(turns, 0);
-            values[0] = 1;
-            sets[0] = 0;
-            many = 1;
-            for (int k = 1; k < values.length && k < sets.length; k++) {
-                int least = leastProduct();
-                if (least > SIEVE_END) {
-                    return;
-                }
-                values[k] = least;
-                sets[k] = takeTurns(least);
+            many = 0;
+            int value = 1;
+            int set = 0;
+            for (int k = 0; k < MOST && value <= SIEVE_END; k++) {
+                values[k] = value;
+                sets[k] = set;
                 many = k + 1;
+                value = leastProduct();
+                set = takeTurns(value);
             }
-        }
-
-        private int productOf(int place) {
-            boolean counts = (bits >> place & 1) == 1 && place >= 0 && place < turns.length;
-            return counts ? valueOr(turns[place], SIEVE_END) * Primes.at(place) : SIEVE_END + 1;
+            return this;
         }
 
         private int leastProduct() {
             int least = SIEVE_END + 1;
-            for (int place = 0; place < Primes.MANY; place++) {
+            for (int place = 0; place < Primes.SEVEN; place++) {
                 least = Math.min(least, productOf(place));
             }
             return least;
+        }
+
+        private int productOf(int place) {
+            boolean counts = place >= 0 && place < turns.length && (bits >> place & 1) == 1;
+            return counts ? valueAt(turns[place]) * Primes.at(place) : SIEVE_END + 1;
         }
 
         private int takeTurns(int product) {
@@ -1595,16 +1680,12 @@ public final class SmoothNeighbours {
             return set;
         }
 
-        private int valueOr(int k, int otherwise) {
-            return k >= 0 && k < many && k < values.length ? values[k] : otherwise;
+        int valueAt(int k) {
+            return k >= 0 && k < many && k < values.length ? values[k] : NONE;
         }
 
         private int setAt(int k) {
             return k >= 0 && k < many && k < sets.length ? sets[k] : 0;
-        }
-
-        int valueAt(int k) {
-            return valueOr(k, NONE);
         }
 
         /** The place of the first number above n, which is also how many there are up to n. */
@@ -1622,37 +1703,43 @@ public final class SmoothNeighbours {
             return from;
         }
 
-        private boolean holds(int n) {
-            return n >= 1 && valueAt(placeAbove(n) - 1) == n;
-        }
-
-        private boolean isCouple(int v, int d, int upTo) {
-            return v <= upTo - d && holds(v + d);
+        int valueAbove(int n) {
+            return valueAt(placeAbove(n));
         }
 
         int couplesUpTo(int d, int upTo) {
             int all = 0;
-            for (int k = 0; k < many; k++) {
-                all += isCouple(valueAt(k), d, upTo) ? 1 : 0;
+            int at = 0;
+            for (int k = 0; k < many && valueAt(k) + d <= upTo; k++) {
+                int other = valueAt(k) + d;
+                while (at < many && valueAt(at) < other) {
+                    at++;
+                }
+                all += valueAt(at) == other ? 1 : 0;
             }
             return all;
         }
 
         boolean saysTheSame(Search search, int upTo) {
             int like = 0;
-            for (int k = 0; k < many; k++) {
-                if (isCouple(valueAt(k), search.apart, upTo)) {
-                    if (!search.isCouple(like) || search.coupleAt(like).low.asInt() != valueAt(k)) {
+            int at = 0;
+            for (int k = 0; k < many && valueAt(k) + search.apart <= upTo; k++) {
+                int other = valueAt(k) + search.apart;
+                while (at < many && valueAt(at) < other) {
+                    at++;
+                }
+                if (valueAt(at) == other) {
+                    if (search.smallAt(like) != valueAt(k)) {
                         return false;
                     }
                     like++;
                 }
             }
-            int more = search.isCouple(like) ? search.coupleAt(like).low.asInt() : NONE;
-            return more == NONE || more > upTo - search.apart;
+            int further = search.smallAt(like);
+            return further == NONE || further + search.apart > upTo;
         }
 
-        int widest(int upTo, int what) {
+        int widest(int upTo, boolean asksWidth) {
             int width = NONE;
             int lesser = NONE;
             for (int k = 1; k < many && valueAt(k) <= upTo; k++) {
@@ -1662,25 +1749,48 @@ public final class SmoothNeighbours {
                     lesser = valueAt(k - 1);
                 }
             }
-            return what == 0 ? width : lesser;
+            return asksWidth ? width : lesser;
         }
 
         int sumsUpTo(int upTo, boolean aboveRadical) {
-            int all = 0;
-            for (int i = 0; i < many && valueAt(i) <= upTo; i++) {
+            if (!sumsAreKnown) {
+                learnSums();
+            }
+            if (upTo < 0 || upTo > SUMS_END) {
+                return NONE;
+            }
+            return aboveRadical ? rareSums[upTo] : sums[upTo];
+        }
+
+        private void learnSums() {
+            Arrays.fill(sums, 0);
+            Arrays.fill(rareSums, 0);
+            for (int i = 0; i < many && 2 * valueAt(i) <= SUMS_END; i++) {
                 int at = i;
-                for (int j = i; j < many && valueAt(i) + valueAt(j) <= upTo; j++) {
+                for (int j = i; j < many && valueAt(i) + valueAt(j) <= SUMS_END; j++) {
                     int sum = valueAt(i) + valueAt(j);
-                    for (int guard = 0; guard < many && at < many && valueAt(at) < sum; guard++) {
+                    while (at < many && valueAt(at) < sum) {
                         at++;
                     }
-                    boolean counts = valueAt(at) == sum && (setAt(i) & setAt(j)) == 0;
-                    if (counts && (!aboveRadical || sum > Primes.product(setAt(i) | setAt(j) | setAt(at)))) {
-                        all++;
+                    if (valueAt(at) == sum) {
+                        learnSum(sum, setAt(i), setAt(j), setAt(at));
                     }
                 }
             }
-            return all;
+            for (int c = 1; c <= SUMS_END; c++) {
+                sums[c] += sums[c - 1];
+                rareSums[c] += rareSums[c - 1];
+            }
+            sumsAreKnown = true;
+        }
+
+        /** A prime that divides two of the three divides all. */
+        private void learnSum(int sum, int setA, int setB, int setC) {
+            if (sum < 0 || sum > SUMS_END || (setA & setB) != 0) {
+                return;
+            }
+            sums[sum]++;
+            rareSums[sum] += sum > Primes.product(setA | setB | setC) ? 1 : 0;
         }
     }
 
@@ -1690,8 +1800,9 @@ public final class SmoothNeighbours {
 
         private final int[] rows = new int[(LAST_GREAT + 1) * LIMBS];
         private final int[] sizes = new int[LAST_GREAT + 1];
-        private final int[] turns = new int[Primes.MANY];
-        private final Big[] products = new Big[Primes.MANY];
+        /** For each prime the place of the number that it multiplies next, and the product. */
+        private final int[] turns = new int[Primes.SEVEN];
+        private final Big[] products = new Big[Primes.SEVEN];
         private final Big shown = new Big(LIMBS);
         private int bits = NONE;
         private int many;
@@ -1702,26 +1813,18 @@ public final class SmoothNeighbours {
             }
         }
 
-        void begin(int ofBits) {
-            if (bits == ofBits) {
-                return;
-            }
-            bits = ofBits;
-            many = 0;
-            shown.setTo(1);
-            keep(shown);
-            for (int place = 0; place < turns.length; place++) {
-                turns[place] = 0;
-                multiplyTurn(place);
-            }
-        }
-
         /** Goes on as far as number k, if there is one: without primes 1 is the only one. */
-        boolean reaches(int k) {
-            for (int i = many; i <= k && i <= LAST_GREAT && bits != 0; i++) {
+        boolean reaches(int k, int primes) {
+            if (k < 0 || k > LAST_GREAT) {
+                return false;
+            }
+            if (bits != primes) {
+                begin(primes);
+            }
+            for (int i = many; i <= k && bits != 0; i++) {
                 goOn();
             }
-            return k >= 0 && k < many;
+            return k < many;
         }
 
         Big shown(int k) {
@@ -1729,65 +1832,105 @@ public final class SmoothNeighbours {
             return shown;
         }
 
-        private void goOn() {
-            int best = NONE;
-            for (int place = 0; place < Primes.MANY; place++) {
-                boolean counts = (bits >> place & 1) == 1;
-                if (counts && (best == NONE || productAt(place).compareWith(productAt(best)) < 0)) {
-                    best = place;
-                }
-            }
-            shown.copy(productAt(best));
-            keep(shown);
+        private void begin(int primes) {
+            bits = primes;
+            many = 0;
+            shown.setTo(1);
+            keepShown();
             for (int place = 0; place < turns.length; place++) {
-                if ((bits >> place & 1) == 1 && productAt(place).compareWith(shown) == 0) {
-                    turns[place]++;
-                }
-            }
-            for (int place = 0; place < turns.length; place++) {
+                turns[place] = 0;
                 multiplyTurn(place);
             }
         }
 
+        private void goOn() {
+            int least = NONE;
+            for (int place = 0; place < Primes.SEVEN; place++) {
+                if (isIn(place) && (least == NONE || productAt(place).compareWith(productAt(least)) < 0)) {
+                    least = place;
+                }
+            }
+            shown.copy(productAt(least));
+            keepShown();
+            for (int place = 0; place < turns.length; place++) {
+                if (isIn(place) && productAt(place).compareWith(shown) == 0) {
+                    turns[place]++;
+                    multiplyTurn(place);
+                }
+            }
+        }
+
+        private boolean isIn(int place) {
+            return (bits >> place & 1) == 1;
+        }
+
         private Big productAt(int place) {
-            Big product = place >= 0 && place < products.length ? products[place] : shown;
+            Big product = place >= 0 && place < products.length ? products[place] : null;
             return product == null ? shown : product;
         }
 
         private void multiplyTurn(int place) {
-            if (place >= 0 && place < turns.length && (bits >> place & 1) == 1) {
-                int turn = turns[place];
+            int turn = place >= 0 && place < turns.length ? turns[place] : NONE;
+            if (turn >= 0 && turn < sizes.length) {
                 Big product = productAt(place);
-                product.load(rows, turn * LIMBS, turn >= 0 && turn < sizes.length ? sizes[turn] : 0);
+                product.load(rows, turn * LIMBS, sizes[turn]);
                 product.multiply(Primes.at(place));
             }
         }
 
-        private void keep(Big number) {
+        private void keepShown() {
             if (many >= 0 && many < sizes.length) {
-                sizes[many] = number.store(rows, many * LIMBS);
+                sizes[many] = shown.store(rows, many * LIMBS);
                 many++;
             }
         }
     }
 
-    /** The bytes that were fed. */
-    private static final class Tape {
-        private static final int MOST = 2000;
-
-        private final byte[] bytes = new byte[MOST];
+    /** A row of bytes that grows behind and can be cut. */
+    private static final class Text {
+        private final byte[] bytes;
         int length;
+
+        Text(int capacity) {
+            bytes = new byte[capacity > 0 ? capacity : 1];
+        }
 
         boolean hasRoomFor(int more) {
             return length <= bytes.length - more;
         }
 
+        void append(int sign) {
+            if (length >= 0 && length < bytes.length) {
+                bytes[length] = (byte) sign;
+                length++;
+            }
+        }
+
+        /** The highest byte first. */
         void appendFour(int word) {
             for (int shift = 24; shift >= 0; shift -= 8) {
-                if (length >= 0 && length < bytes.length) {
-                    bytes[length] = (byte) (word >> shift);
-                    length++;
+                append(word >> shift);
+            }
+        }
+
+        /** Takes a value from 0 on. */
+        void appendInt(int value) {
+            int digits = 1;
+            for (int rest = value; rest >= 10; rest /= 10) {
+                digits++;
+            }
+            for (int k = digits - 1; k >= 0; k--) {
+                int rest = value;
+                for (int i = 0; i < k; i++) {
+                    rest /= 10;
                 }
+                append('0' + rest % 10);
+            }
+        }
+
+        void appendBig(Big number) {
+            for (int k = number.digits() - 1; k >= 0; k--) {
+                append('0' + number.digitAt(k));
             }
         }
 
@@ -1803,79 +1946,27 @@ public final class SmoothNeighbours {
             return k >= 0 && k < length && k < bytes.length ? bytes[k] & 255 : NONE;
         }
 
-        /** How many digits the tape is, if it is a number of at most so many; else NONE. */
-        int numberDigits(int most) {
+        /** Whether these are digits, at most so many, the first not 0. */
+        boolean isNumber(int most) {
             if (length < 1 || length > most || byteAt(0) == '0') {
-                return NONE;
+                return false;
             }
             for (int k = 0; k < length; k++) {
                 if (byteAt(k) < '0' || byteAt(k) > '9') {
-                    return NONE;
+                    return false;
                 }
             }
-            return length;
+            return true;
         }
-    }
 
-    /** The text by which all classes are told, with what each power comes to. */
-    private static final class Proof {
-        private static final int MOST = 2048;
-
-        private final byte[] bytes = new byte[MOST];
-        int length;
-
-        void write(Search search) {
-            length = 0;
-            for (int k = 0; k < search.classes; k++) {
-                Unit unit = search.unitAt(k);
-                writeInt(unit.q);
-                write(':');
-                writeBig(unit.x);
-                write(',');
-                writeBig(unit.y);
-                for (int i = 1; i <= search.bound; i++) {
-                    write(';');
-                    writeWitness(search.witnessOf(k, i));
+        /** The first place at which the other one is not the same, its end too; NONE, if they are the same. */
+        int firstUnlike(Text other) {
+            for (int k = 0; k < length; k++) {
+                if (other.byteAt(k) != byteAt(k)) {
+                    return k;
                 }
-                write('.');
             }
-        }
-
-        int byteAt(int k) {
-            return k >= 0 && k < length && k < bytes.length ? bytes[k] & 255 : NONE;
-        }
-
-        private void writeWitness(int witness) {
-            if (witness == 0) {
-                write('s');
-            } else if (witness == NO_WITNESS) {
-                write('?');
-            } else {
-                writeInt(witness);
-            }
-        }
-
-        private void writeInt(int value) {
-            int unitOfDigit = 1;
-            for (int guard = 0; guard < 9 && value / unitOfDigit >= 10; guard++) {
-                unitOfDigit *= 10;
-            }
-            for (int rest = unitOfDigit; rest > 0; rest /= 10) {
-                write((char) ('0' + value / rest % 10));
-            }
-        }
-
-        private void writeBig(Big number) {
-            for (int k = number.digits() - 1; k >= 0; k--) {
-                write((char) ('0' + number.digitAt(k)));
-            }
-        }
-
-        private void write(char sign) {
-            if (length >= 0 && length < bytes.length) {
-                bytes[length] = (byte) sign;
-                length++;
-            }
+            return other.length > length ? length : NONE;
         }
     }
 }
