@@ -369,7 +369,8 @@ public final class SmoothNeighbours {
         int rest = n;
         for (int place = 0; place < Primes.SEVEN; place++) {
             int prime = Primes.at(place);
-            for (int times = 0; times < 31 && Primes.has(primes, prime) && rest % prime == 0; times++) {
+            boolean counts = prime > 1 && Primes.has(primes, prime);
+            for (int times = 0; counts && times < 31 && rest % prime == 0; times++) {
                 rest /= prime;
             }
         }
@@ -673,7 +674,7 @@ public final class SmoothNeighbours {
             907, 911, 919, 929, 937, 941, 947, 953, 967, 971, 977, 983, 991, 997
         };
 
-        /** A prime by its place; 1, which divides without harm, where there is none. */
+        /** A prime by its place; 1 where there is none. */
         static int at(int place) {
             return place >= 0 && place < LIST.length ? LIST[place] : 1;
         }
@@ -1159,7 +1160,7 @@ public final class SmoothNeighbours {
             for (int place = Primes.SEVEN; place < Primes.MANY; place++) {
                 int s = Primes.at(place);
                 int low = (powerLeft(i, 2 * s) - 1) / 2;
-                if (low % s == 0 || (low + 1) % s == 0) {
+                if (s > 1 && (low % s == 0 || (low + 1) % s == 0)) {
                     return s;
                 }
             }
