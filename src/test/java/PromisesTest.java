@@ -272,8 +272,10 @@ public final class PromisesTest {
         due(38, "least(2, -1000)", x.least(2, -1000), 10);
         due(38, "least(1, -998)", x.least(1, -998), 13);
         due(38, "least(0, 1000)", x.least(0, 1000), NONE);
-        due(38, "least(0, 1001)", x.least(0, 1001), NONE);
-        due(38, "least(0, -1001)", x.least(0, -1001), NONE);
+        SmoothNeighbours y = of(FIVE);
+        due(38, "least(6, 1001), where 2 would do", y.least(6, 1001), NONE);
+        due(38, "least(9, -1001), where 5 would do", y.least(9, -1001), NONE);
+        due(38, "least(0, least)", y.least(0, LEAST), NONE);
         due(38, "least(7, 1)", x.least(7, 1), NONE);
         due(38, "least(-1, 1)", x.least(-1, 1), NONE);
     }
@@ -393,7 +395,14 @@ public final class PromisesTest {
         }
         due(21, "rank(11)", x.rank(11), NONE);
         due(21, "rank(-1)", x.rank(-1), NONE);
+        int[] ranksOfFive = {0, 1, 2, 2, 3, 3, 4, 4, 4, 4, 5, 5, 5};
+        int[] ranksWithSeventeen = {0, 1, 2, 2, 3, 3, 4, 4, 4, 4, 4, 4, 5};
+        for (int many = 0; many < ranksOfFive.length; many++) {
+            due(21, "rank(" + many + ") of five", y.rank(many), ranksOfFive[many]);
+            due(21, "rank(" + many + ") with 17", of(79).rank(many), ranksWithSeventeen[many]);
+        }
         due(21, "rank(40) of five", y.rank(40), 5);
+        due(21, "rank(41) of five", y.rank(41), NONE);
         due(21, "rank(0) without pairs", of(0).rank(0), 0);
         due(52, "threes()", x.threes(), 5);
         due(52, "threes() of five", y.threes(), 15);
