@@ -738,6 +738,10 @@ public final class PromisesTest {
         due(55, "160 without 5 is none of the twos", x.ofNumber(2), NONE);
         due(55, "what is left of 160", x.ofNumber(3), 1);
         x.add(5);
+        feedText(x, "1000000001");
+        x.number();
+        due(55, "1000000001 is not smooth", x.ofNumber(0), 0);
+        due(55, "1000000001 is left whole", x.ofNumber(3), 10);
         String longest = "9".repeat(300);
         feedText(x, longest);
         due(53, "number() of 300 digits", x.number(), 300);
