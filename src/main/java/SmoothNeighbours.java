@@ -23,7 +23,7 @@ public final class SmoothNeighbours {
     private static final int NUMBER_LIMBS = 36;
     private static final int FED_BYTES = 20;
     private static final int TAPE_BYTES = 2000;
-    /** The longest proof of all is some 1,600 bytes long. */
+    /** The longest proof of all, that of 2, 3, 5, 7, 17, is 1,138 bytes long. */
     private static final int PROOF_BYTES = 2048;
 
     private final Search neighbours = new Search(1);

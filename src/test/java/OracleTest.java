@@ -16,6 +16,8 @@ import java.util.TreeSet;
 /** Runs of calls on the class and on a model of the document's words: each answer must be the same. */
 public final class OracleTest {
     private static final int CALLS = 511;
+    /** More calls than a proof needs to come in. */
+    private static final int FEEDING = 70;
     private static int wrong = 0;
     private static long compared = 0;
 
@@ -59,9 +61,10 @@ public final class OracleTest {
             if (bits >= 0 && changes) {
                 continue;
             }
-            if (name.equals("number") && random.nextInt(3) > 0) {
+            boolean mayFeed = i < CALLS - FEEDING;
+            if (mayFeed && name.equals("number") && random.nextInt(3) > 0) {
                 i += feedNumber(object, model, random);
-            } else if (name.equals("proves") && random.nextInt(3) > 0) {
+            } else if (mayFeed && name.equals("proves") && random.nextInt(3) > 0) {
                 i += feedProof(object, model, random);
             }
             Object[] arguments = Arguments.forCall(method, model, random);
@@ -128,30 +131,50 @@ public final class OracleTest {
     /** What random calls may miss: every pair, every class, every digit of the proof of every set. */
     private static void allOfEverySet() {
         for (int bits = 0; bits < 128; bits++) {
-            if (Integer.bitCount(bits) > 5) {
-                continue;
+            if (Integer.bitCount(bits) <= 5) {
+                Model model = new Model();
+                model.choose(bits);
+                proofOf(bits, model.proofText());
+                pairsOf(bits, model);
+                twosOf(bits, model);
             }
-            Model model = new Model();
-            model.choose(bits);
-            SmoothNeighbours object = new SmoothNeighbours();
-            due("choose " + bits, object.choose(bits), model.pairs.size());
-            String proof = model.proofText();
+        }
+    }
+
+    private static SmoothNeighbours of(int bits) {
+        SmoothNeighbours object = new SmoothNeighbours();
+        object.choose(bits);
+        return object;
+    }
+
+    /** An object takes 512 calls, so that each part of the proof has one of its own. */
+    private static void proofOf(int bits, String proof) {
+        StringBuilder written = new StringBuilder();
+        for (int from = 0; from < proof.length(); from += 500) {
+            SmoothNeighbours object = of(bits);
             due(bits + ": proof()", object.proof(), proof.length());
-            StringBuilder written = new StringBuilder();
-            for (int k = 0; k < proof.length(); k++) {
+            for (int k = from; k < from + 500 && k < proof.length(); k++) {
                 written.append((char) object.octet(k));
             }
-            due(bits + ": the proof's text", written.toString().equals(proof) ? 1 : 0, 1);
-            for (int i = 0; i < model.pairs.size(); i++) {
-                for (int measure = 0; measure < 9; measure++) {
-                    due(bits + ": measure(" + i + ", " + measure + ")", object.measure(i, measure),
-                            model.measure(i, measure));
-                }
+        }
+        due(bits + ": the proof's text", written.toString().equals(proof) ? 1 : 0, 1);
+    }
+
+    private static void pairsOf(int bits, Model model) {
+        SmoothNeighbours object = new SmoothNeighbours();
+        due("choose " + bits, object.choose(bits), model.pairs.size());
+        for (int i = 0; i < model.pairs.size(); i++) {
+            for (int measure = 0; measure < 9; measure++) {
+                due(bits + ": measure(" + i + ", " + measure + ")", object.measure(i, measure), model.measure(i, measure));
             }
-            for (int i = 0; i < model.twos.size(); i++) {
-                for (int what = 0; what < 5; what++) {
-                    due(bits + ": two(" + i + ", " + what + ")", object.two(i, what), model.two(i, what));
-                }
+        }
+    }
+
+    private static void twosOf(int bits, Model model) {
+        SmoothNeighbours object = of(bits);
+        for (int i = 0; i < model.twos.size(); i++) {
+            for (int what = 0; what < 5; what++) {
+                due(bits + ": two(" + i + ", " + what + ")", object.two(i, what), model.two(i, what));
             }
         }
     }
