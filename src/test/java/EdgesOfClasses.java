@@ -169,6 +169,13 @@ final class EdgesOfClasses {
         doc.row("witness(0, i) of 2, 3, 5, 7", i -> x.witness(0, i), NONE, 0, 0, 0, 17, NONE);
         x.choose(0);
         doc.row("witness(0, i) without primes", i -> x.witness(0, i), NONE, 2, 2, 2, NONE);
+        SmoothNeighbours far = doc.test(33, "WITNESS.", 79);
+        doc.row("witness(19, i) of 119, up to 40 digits", i -> far.witness(19, i), NONE, 0, 107, 311, 107, 241, 11, 911, 31, 73);
+        doc.row("witness(20, i) of 170, up to 52 digits", i -> far.witness(20, i), NONE, 41, 11, 19, 11, 29, 11, 13, 11, 19);
+        SmoothNeighbours longOne = doc.test(33, "WITNESS.", 55);
+        doc.row("witness(28, i) of 1430, up to 73 digits", i -> longOne.witness(28, i), NONE, 23, 23, 7, 17, 19, 7, 23, NONE);
+        longOne.choose(115);
+        doc.row("witness(24, i) of 858", i -> longOne.witness(24, i), NONE, 7, 5, 7, 5, 7, 5, 7, 5, 7, NONE);
         SmoothNeighbours y = doc.test(33, "NONE for others.", THREE);
         doc.dueForAll("witness(0, i)", new int[] {0, -1, 4, 9, 10, LEAST, MOST}, i -> y.witness(0, i), NONE);
         doc.dueForAll("witness(c, 1)", NO_CLASSES, k -> y.witness(k, 1), NONE);

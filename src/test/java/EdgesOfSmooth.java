@@ -21,6 +21,7 @@ final class EdgesOfSmooth {
         sums(doc);
         greatLong(doc);
         greatDigit(doc);
+        greatOnesGrow(doc);
         thick(doc);
     }
 
@@ -177,6 +178,8 @@ final class EdgesOfSmooth {
         doc.due("sums(8, 0): not 2 and 6, not 4 and 4", z.sums(8, 0), 3);
         doc.due("sums(9, 0): 1 and 8, not 3 and 6", z.sums(9, 0), 4);
         doc.due("sums(3000, 0) of 2: 1 and 1 alone", Sentences.of(1).sums(3000, 0), 1);
+        SmoothNeighbours great = doc.test(40, "a no more than b, a and b together c,", 107);
+        doc.due("sums(2401, 0) is two more: 204 and 2197, 1024 and 1377", great.sums(2401, 0) - great.sums(2400, 0), 2);
         SmoothNeighbours above = doc.test(40, "those with c above the RADICAL of a * b * c (1).");
         doc.due("sums(2, 1): 2 is the RADICAL", above.sums(2, 1), 0);
         doc.due("sums(8, 1)", above.sums(8, 1), 0);
@@ -219,6 +222,23 @@ final class EdgesOfSmooth {
         doc.due("greatDigit(0, 0) without primes", Sentences.of(0).greatDigit(0, 0), 1);
         SmoothNeighbours z = doc.test(42, "and for others.", THREE);
         doc.dueForAll("greatDigit(k, 0)", new int[] {401, 402, -1, LEAST, MOST}, k -> z.greatDigit(k, 0), NONE);
+    }
+
+    /** Where the numbers become longer than nine digits, and than an int can hold. */
+    private static void greatOnesGrow(Sentences doc) {
+        growFrom(doc, 3, 304, "918330048", "967458816", "1019215872", "1033121304", "1073741824", "1088391168", "1146617856");
+        growFrom(doc, 96, 35, "410338673", "815730721", "1066724789", "1394947801", "1824162509", "2385443281", "3119425829");
+        growFrom(doc, 9, 178, "939524096", "963780608", "1073741824", "1101463552", "1129900996", "1258815488", "1291315424");
+        growFrom(doc, 34, 88, "812017791", "815730721", "1162261467", "1167575877", "1172914587", "1678822119");
+        growFrom(doc, 48, 43, "690233687", "815730721", "2357947691", "2786665453", "3293331899", "3892119517");
+    }
+
+    private static void growFrom(Sentences doc, int bits, int first, String... numbers) {
+        for (int i = 0; i < numbers.length; i++) {
+            int k = first + i;
+            SmoothNeighbours x = doc.test(42, "Digit d of SMOOTH number k (0 .. 400) of ALL.", bits);
+            doc.digits("greatDigit(" + k + ", d) of " + bits, numbers[i], d -> x.greatDigit(k, d));
+        }
     }
 
     private static void thick(Sentences doc) {
